@@ -28,8 +28,8 @@ public final class SidesTest {
             x.step(1);
             Check.due("side " + side + " at " + tick, x.output(3 + side), tick % 80 < 40 ? 1 : 0);
             Check.due("COUNT at " + tick, x.state(6 + side), tick / 80);
-            Check.due("the other COUNT", x.state(7 - side), 0);
         }
+        Check.due("the other COUNT", x.state(7 - side), 0);
     }
 
     private static void blinksOut(int side) {
@@ -115,6 +115,12 @@ public final class SidesTest {
         Check.due("the first's COUNT stays", x.state(6 + side), 1);
         x.step(1000);
         Check.due("the first's COUNT stays", x.state(6 + side), 1);
+        x.input(2, side + 1);
+        Check.due("the first begins anew", x.state(6 + side), 0);
+        x.step(39);
+        Check.due("with age 0, bright", x.output(3 + side), 1);
+        x.step(1);
+        Check.due("with age 0, dim", x.output(3 + side), 0);
     }
 
     private static void toldAnewEndsTheOther(int side) {
@@ -180,9 +186,22 @@ public final class SidesTest {
         x.input(3, 0);
         for (int kind = 0; kind < 9; kind++) {
             if (kind != 2) {
+                x.input(kind, 1);
                 x.input(kind, 0);
             }
         }
+        x.input(0, 2);
+        x.input(4, 2);
+        x.input(1, 2);
+        x.input(0, 0);
+        Check.outputs("both go on", x, 0, 0, 0, 1, 1);
+        x.input(2, 0);
+        for (int kind = 0; kind < 9; kind++) {
+            if (kind != 2 && kind != 3 && kind != 7) {
+                x.input(kind, 1);
+            }
+        }
+        x.input(0, 0);
         Check.outputs("both go on", x, 0, 0, 0, 1, 1);
     }
 }

@@ -159,5 +159,11 @@ public final class WiperTest {
         Check.due("parked without IGNITION", x.state(5), 160);
         x.step(1);
         Check.due("and then the speed is 0", x.state(5), 0);
+        x = wiping(1, 3);
+        x.step(50);
+        x.rain(0);
+        x.step(50);
+        Check.due("parked without RAIN", x.state(4), 0);
+        Check.due("no PAUSE without RAIN", x.state(5), 0);
     }
 }
