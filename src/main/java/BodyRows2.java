@@ -158,9 +158,6 @@ public final class BodyRows2 {
         if (!isUpTo(rank, MOST_RANK)) {
             return OUTSIDE;
         }
-        if (loads.isFull()) {
-            return NO_ROOM;
-        }
         return loads.add(rank, legal);
     }
 
@@ -549,12 +546,8 @@ public final class BodyRows2 {
         private int low;
         private int high;
 
-        private boolean isFull() {
-            return size >= MOST;
-        }
-
         private int add(int rank, boolean isLegal) {
-            if (isFull()) {
+            if (size >= MOST) {
                 return NO_ROOM;
             }
             ranks[size] = rank;

@@ -5,7 +5,7 @@ import java.lang.reflect.Modifier;
 import java.util.Set;
 import java.util.TreeSet;
 
-/** The public face, by LANGUAGE.md rule 1. */
+/** The public face, by the document and LANGUAGE.md rule 1. */
 public final class FaceTest {
     private static final Set<String> FACE = Set.of(
         "input(int, int)", "output(int)", "step(int)", "pinch(int, int)", "learn(int)", "shed(int)",
@@ -13,6 +13,7 @@ public final class FaceTest {
         "memory(int, int, int)", "trailer(boolean)", "state(int)");
 
     public static void main(String[] args) {
+        Check.sentence("The public face");
         Class<?> type = BodyRows2.class;
         Check.holds("public final", Modifier.isPublic(type.getModifiers()) && Modifier.isFinal(type.getModifiers()));
         Constructor<?>[] makers = type.getDeclaredConstructors();
@@ -44,6 +45,9 @@ public final class FaceTest {
                 seen.add(describe(method));
                 Check.holds("int and no static: " + method, method.getReturnType() == int.class
                     && Modifier.isPublic(method.getModifiers()) && !Modifier.isStatic(method.getModifiers()));
+                Class<?>[] thrown = method.getExceptionTypes();
+                Check.holds("output alone tells what it throws: " + method, method.getName().equals("output")
+                    ? thrown.length == 1 && thrown[0] == IndexOutOfBoundsException.class : thrown.length == 0);
             }
         }
         Check.holds("the face is " + seen, seen.equals(FACE));
